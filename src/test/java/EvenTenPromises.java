@@ -580,9 +580,10 @@ public final class EvenTenPromises {
         EvenTen nine = withHeaps(2, 0, 0, 0, 0, 0, 0, 0, 0, 0);
         due("21 nine", nine.turns(1, 0), NOT);
         due("21 outside goes ahead", nine.turns(1, 2), OUTSIDE);
-        // Whatever the first one takes, the second one has three of the four others.
-        EvenTen second = withHeaps(10, 5, 1, 9, 1, 9, 1, 9);
-        due("21 what it comes to", second.turns(2, 0), second.turns(2, 0));
+        // The fourth heap alone threatens with two others at once.
+        EvenTen threat = withHeaps(7, 5, 3, 5, 2, 0);
+        due("21 two threats", threat.turns(2, 0), 2);
+        due("21 the fourth heap", threat.turns(2, 1), 3);
     }
 
     private static void promise22() {
