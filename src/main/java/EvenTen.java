@@ -928,10 +928,11 @@ public final class EvenTen {
 
         Coming(Heaps heaps) {
             this.heaps = heaps;
+            // Of no HEAPS there is the empty LOT alone.
+            sizes[0][0] = 1;
         }
 
         int firstWith(int k) {
-            clearFirst();
             for (int heap = 0; heap < heaps.size; heap++) {
                 addOne(heap, heaps.restOfNumber(heap));
                 if (hasTen(heap + 1, k)) {
@@ -942,7 +943,6 @@ public final class EvenTen {
         }
 
         int mostWithout(int k) {
-            clearFirst();
             Arrays.fill(supply, 0);
             for (int heap = 0; heap < heaps.size; heap++) {
                 supply[heaps.restOfNumber(heap)]++;
@@ -950,11 +950,6 @@ public final class EvenTen {
             most = 0;
             hand(k, 0, 0, heaps.size);
             return most;
-        }
-
-        private void clearFirst() {
-            Arrays.fill(sizes[0], 0);
-            sizes[0][0] = 1;
         }
 
         /**

@@ -290,6 +290,9 @@ public final class EvenTenPromises {
         due("8 odd", x.as(0, 0, 5, 2), 0);
         due("8 any of 3", x.as(1, 0, 3, 3), 1);
         due("8 any of 1", x.as(1, 0, 3, 1), 0);
+        due("8 any, a single one", x.as(1, 3, 4, 3), 1);
+        due("8 run, a single one", x.as(2, 4, 8, 1), 1);
+        due("8 no empty any", x.as(1, 0, 0, 4), 0);
         due("8 run", x.as(2, 3, 3, 2), 1);
         due("8 run of all", x.as(2, 3, 15, 20), 1);
         due("8 run with a gap", x.as(2, 3, 11, 4), 0);
@@ -391,6 +394,9 @@ public final class EvenTenPromises {
         due("11 none of no heaps", new EvenTen().light(1, 0), NONE);
         EvenTen great = after("heap 999999999999999 r;heap 999999999999991 r");
         due("11 beyond int", great.light(2, 1), 1999999999999990L);
+        EvenTen twenty = withHeaps(10, 1, 1, 1, 1, 1, 1, 1, 1, 1, 1, 1, 1, 1, 1, 1, 1, 1, 1, 1, 1);
+        due("11 all of twenty", twenty.light(20, 0), (1 << 20) - 1);
+        due("11 their sum", twenty.light(20, 1), 20);
     }
 
     private static void promise12() {
