@@ -8,7 +8,8 @@ import java.util.regex.Pattern;
 /** Long runs of calls, compared with a model that goes through all lots one by one. */
 public final class EvenTenAgainstPlain {
     private static final int NONE = -1, UNKNOWN = -2, OUTSIDE = -3, NOT = -4, FULL = -5;
-    private static final int CALLS = 512;
+    /** What an object is used for at most; the longest step is a text of some 50 writes. */
+    private static final int CALLS = 512, LONGEST_STEP = 60;
     private static int wrong = 0;
 
     private record Heap(long number, int second, int colour, int cost) { }
@@ -533,6 +534,7 @@ public final class EvenTenAgainstPlain {
 
         void due(String call, long got, long want) {
             calls++;
+            same(name + ": a call that an object is still used for", calls <= CALLS ? 1 : 0, 1);
             if (got != want) {
                 wrong++;
                 System.out.println(name + ", call " + calls + ": " + call + " answered " + got
@@ -706,7 +708,7 @@ public final class EvenTenAgainstPlain {
         }
 
         void go(int most) {
-            while (calls < most) {
+            while (calls + LONGEST_STEP <= most) {
                 switch (random.nextInt(9)) {
                     case 0 -> tell(text());
                     case 1 -> tell(spoilt(text()));
@@ -721,9 +723,9 @@ public final class EvenTenAgainstPlain {
     }
 
     private static void whateverHeaps() {
-        EvenTen x = new EvenTen();
         for (int parts = 2; parts <= 5; parts++) {
             for (int k = 1; k <= 9; k++) {
+                EvenTen x = new EvenTen();
                 int need = NONE;
                 for (int m = 9; m >= 0; m--) {
                     List<Integer> all = Plain.worstOnes(parts, m, k);
@@ -755,7 +757,7 @@ public final class EvenTenAgainstPlain {
             new Run("run " + seed, seed, most).go(CALLS);
         }
         for (int seed = 0; seed < 4; seed++) {
-            new Run("great run " + seed, seed, 20).go(150);
+            new Run("great run " + seed, seed, 20).go(210);
         }
         whateverHeaps();
         System.out.println(wrong == 0 ? "as the plain model" : wrong + " answers are not as due");

@@ -1,65 +1,5 @@
 /** For each promise: ordinary inputs, the edges that the document names, and wrong inputs. */
-public final class EvenTenPromises {
-    private static final int NONE = EvenTen.NONE;
-    private static final int UNKNOWN = EvenTen.UNKNOWN;
-    private static final int OUTSIDE = EvenTen.OUTSIDE;
-    private static final int NOT = EvenTen.NOT;
-    private static final int FULL = EvenTen.FULL;
-    private static final int LOW = Integer.MIN_VALUE;
-    private static final int HIGH = Integer.MAX_VALUE;
-
-    private static int wrong = 0;
-
-    private static void due(String call, long got, long want) {
-        if (got != want) {
-            wrong++;
-            System.out.println(call + " answered " + got + ", due is " + want);
-        }
-    }
-
-    private static int put(EvenTen x, String text) {
-        int answer = x.count(2);
-        for (int from = 0; from < text.length(); from += 8) {
-            int n = Math.min(8, text.length() - from);
-            long bytes = 0;
-            for (int i = 0; i < n; i++) {
-                bytes |= (long) text.charAt(from + i) << 8 * i;
-            }
-            answer = x.write(bytes, n);
-        }
-        return answer;
-    }
-
-    /** An object behind these texts, each of which must be without a fault. */
-    private static EvenTen after(String... texts) {
-        EvenTen x = new EvenTen();
-        for (String text : texts) {
-            put(x, text);
-            due("fault of " + text, x.fault(), NONE);
-            due("market of " + text, x.market(), text.split(";").length);
-        }
-        return x;
-    }
-
-    private static EvenTen withHeaps(int parts, int... numbers) {
-        EvenTen x = after("parts " + parts);
-        for (int number : numbers) {
-            put(x, "heap " + number + " r");
-            x.market();
-        }
-        due("count(0)", x.count(0), numbers.length);
-        return x;
-    }
-
-    /** Where the fault of a text lies, with so many heaps ahead of it. */
-    private static void fault(int heaps, String text, int want) {
-        EvenTen x = withHeaps(10, new int[heaps]);
-        put(x, text);
-        due("fault of '" + text + "' with " + heaps + " heaps", x.fault(), want);
-        due("market of '" + text + "'", x.market() == NOT ? 1 : 0, want == NONE ? 0 : 1);
-        due("bytes of '" + text + "'", x.count(2), want == NONE ? 0 : text.length());
-    }
-
+public final class EvenTenPromises extends Telling {
     private static void promise1() {
         EvenTen x = new EvenTen();
         due("1 heaps", x.count(0), 0);
@@ -719,9 +659,6 @@ public final class EvenTenPromises {
         promise24();
         promises25And26();
         promise27();
-        System.out.println(wrong == 0 ? "all promises hold" : wrong + " answers are not as due");
-        if (wrong != 0) {
-            System.exit(1);
-        }
+        end();
     }
 }
