@@ -596,7 +596,7 @@ public final class EvenTen {
             }
             to++;
             boolean letters = isLetter(text.at(from));
-            if (!letters && !isDigitHere()) {
+            if (!letters && !isDigit(text.at(from))) {
                 return;
             }
             while (to < text.length && (letters ? isLetter(text.at(to)) : isDigit(text.at(to)))) {
@@ -609,11 +609,11 @@ public final class EvenTen {
         }
 
         private static boolean isDigit(int sign) {
-            return within(sign, '0', '9');
+            return sign >= '0' && sign <= '9';
         }
 
         private static boolean isLetter(int sign) {
-            return within(sign, 'a', 'z');
+            return sign >= 'a' && sign <= 'z';
         }
     }
 

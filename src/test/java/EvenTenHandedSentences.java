@@ -241,6 +241,10 @@ public final class EvenTenHandedSentences extends Telling {
         EvenTen both = withHeaps(10, 2, 9, 9, 1);
         due("1 goes with both", both.turns(2, 0), 2);
         due("so it is taken", both.turns(2, 1), 3);
+        // 8 makes him take 1, then 2 goes with both 7s: a pair among three heaps.
+        EvenTen three = withHeaps(9, 8, 7, 7, 1, 2);
+        due("a pair among three", three.turns(2, 0), 2);
+        due("from 8 on", three.turns(2, 1), 0);
     }
 
     private static void turnsRefused() {

@@ -278,6 +278,9 @@ public final class EvenTenLotSentences extends Telling {
         due("their sum", x.light(4, 1), 30);
         due("alike", alike(10, 20, 5).light(4, 0), 15);
         due("a light one behind", withHeaps(10, 10, 20, 0).light(1, 0), 4);
+        due("a heavy one ahead", withHeaps(10, 30, 5, 5, 10).light(2, 0), 6);
+        due("the first is not the lightest", withHeaps(10, 1, 9, 9, 1).light(2, 0), 3);
+        due("nor a later one", withHeaps(10, 1, 19, 9, 1).light(2, 0), 5);
         EvenTen twenty = twentyAtTheGreatest();
         due("the greatest", twenty.light(20, 0), TWENTY);
         due("the greatest sum", twenty.light(20, 1), 19999999999999980L);

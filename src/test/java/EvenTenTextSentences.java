@@ -160,6 +160,14 @@ public final class EvenTenTextSentences extends Telling {
         fault(1, "sweep 0", 6);
         fault(1, "sweep sweep", 6);
         fault(1, "sale", 0);
+        fault(1, "xarts 7", 0);
+        fault(1, "partx 7", 0);
+        fault(1, "xeap 7 r", 0);
+        fault(1, "heax 7 r", 0);
+        fault(1, "xway 0", 0);
+        fault(1, "awax 0", 0);
+        fault(1, "xweep", 0);
+        fault(1, "sweex", 0);
         fault(1, "part 7", 0);
         fault(1, "partss 7", 0);
         fault(1, "heaps 7 r", 0);
@@ -466,6 +474,16 @@ public final class EvenTenTextSentences extends Telling {
         due("parts stay", x.count(1), 3);
         due("sales stay", x.count(3), 1);
         due("the image stays", x.back(1), 2);
+        x.erase();
+        // What was there must not lengthen the tokens at the end of a shorter text.
+        put(x, "parts 22;heap 1 rr");
+        x.erase();
+        tell(x, "parts 2");
+        due("no 22", x.count(1), 2);
+        put(x, "sweep;heap 1 r 5");
+        x.erase();
+        tell(x, "sweep;heap 1 r");
+        due("no second", x.heap(0, 1), 0);
     }
 
     private static void faultChangesNothing() {
