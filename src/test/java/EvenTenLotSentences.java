@@ -73,6 +73,43 @@ public final class EvenTenLotSentences extends Telling {
         due("below 0", twenty.rest(-1, 2), UNKNOWN);
     }
 
+    private static void lotsAreBits() {
+        sentence("A LOT is a set of HEAPS (bits).");
+        EvenTen x = alike(10, 20, 1);
+        for (int heap = 0; heap < 20; heap++) {
+            due("heap " + heap + " alone", x.rest(1 << heap, 2), 1);
+            due("all up to " + heap, x.rest((2 << heap) - 1, 0), (heap + 1) % 10);
+        }
+        due("none", x.rest(0, 2), 0);
+        for (int bit = 20; bit < 32; bit++) {
+            due("no heap " + bit, x.rest(1 << bit, 2), UNKNOWN);
+            due("heap 0 with no heap " + bit, x.rest(1 | 1 << bit, 2), UNKNOWN);
+        }
+    }
+
+    private static void kindsAreEven() {
+        sentence("KINDS of LOTS (EVEN ones all) for k (1 .. 20)");
+        EvenTen x = after("parts 2;heap 1 r;heap 1 g;heap 1 b;heap 1 y");
+        for (int kind = 0; kind < 8; kind++) {
+            due("one odd heap of each kind", x.as(kind, 0, 1 << Math.max(0, kind - 4), 1), 0);
+            due("three odd heaps", x.as(kind, 0, 7, 3), 0);
+            due("four odd heaps", x.as(kind, 0, 15, 4), 1);
+            due("found", x.find(kind, 4), 15);
+            due("none of 1", x.find(kind, 1), NONE);
+            due("k 20 is one", x.find(kind, 20), kind == 1 || kind == 2 ? 15 : NONE);
+            for (int k : NO_SIZES) {
+                due("k " + k + " is none", x.as(kind, 0, 15, k), OUTSIDE);
+            }
+        }
+        sentence("whether a LOT is one of k HEAPS (1, 0).");
+        for (int kind = 0; kind < 8; kind++) {
+            for (int k = 1; k <= 20; k++) {
+                boolean is = k == 4 || k > 4 && (kind == 1 || kind == 2);
+                due("kind " + kind + " of " + k, x.as(kind, 0, 15, k), is ? 1 : 0);
+            }
+        }
+    }
+
     private static void even() {
         sentence("It is EVEN, if its NUMBERS together have REST 0.");
         EvenTen x = withHeaps(10, 3, 7, 10, 0);
@@ -254,6 +291,16 @@ public final class EvenTenLotSentences extends Telling {
         due("any", twenty.many(NONE, 0), 1 + 184756 + 1);
         due("any, rest 9", twenty.many(NONE, 9), 167960 + 20);
         due("all there are", alike(2, 20, 0).many(NONE, 0), 1 << 20);
+        sentence("MANY: LOTS of k HEAPS (NONE: of any) of a REST.");
+        EvenTen mixed = withHeaps(4, 1, 2, 3, 0, 5, 7);
+        for (int rest = 0; rest < 4; rest++) {
+            int all = 0;
+            for (int k = 0; k <= 20; k++) {
+                all += mixed.many(k, rest);
+            }
+            due("any of rest " + rest, mixed.many(NONE, rest), all);
+            due("a fourth of them", all, 16);
+        }
         sentence("OUTSIDE: k (NONE .. 20), rest (0 .. n - 1).");
         for (int k : new int[] {LOW, -3, -2, 21, 22, HIGH}) {
             due("k " + k, twenty.many(k, 0), OUTSIDE);
@@ -279,8 +326,8 @@ public final class EvenTenLotSentences extends Telling {
         due("alike", alike(10, 20, 5).light(4, 0), 15);
         due("a light one behind", withHeaps(10, 10, 20, 0).light(1, 0), 4);
         due("a heavy one ahead", withHeaps(10, 30, 5, 5, 10).light(2, 0), 6);
-        due("the first is not the lightest", withHeaps(10, 1, 9, 9, 1).light(2, 0), 3);
-        due("nor a later one", withHeaps(10, 1, 19, 9, 1).light(2, 0), 5);
+        due("four of one weight", withHeaps(10, 1, 9, 9, 1).light(2, 0), 3);
+        due("the first is not the lightest", withHeaps(10, 1, 19, 9, 1).light(2, 0), 5);
         EvenTen twenty = twentyAtTheGreatest();
         due("the greatest", twenty.light(20, 0), TWENTY);
         due("the greatest sum", twenty.light(20, 1), 19999999999999980L);
@@ -383,6 +430,8 @@ public final class EvenTenLotSentences extends Telling {
     public static void main(String[] args) {
         heap();
         rest();
+        lotsAreBits();
+        kindsAreEven();
         even();
         kindTen();
         kindAny();
