@@ -202,7 +202,7 @@ public final class EvenTenRefusals extends Telling {
         EvenTen twenty = withHeaps(6, 0, 1, 2, 3, 4, 5, 0, 1, 2, 3, 4, 5, 0, 1, 2, 3, 4, 5, 0, 1);
         int most = twenty.badly(6);
         due("less than twice six less one", most <= 10 ? 1 : 0, 1);
-        for (int i = 0; i < 150; i++) {
+        for (int i = 0; i < 130; i++) {
             due("badly", twenty.badly(6), most);
             due("find", twenty.find(3, 20), NONE);
             due("light", twenty.light(20, 0), NONE);
